@@ -81,6 +81,7 @@ public final class PromiseTest {
         promise24IsInkedIndexes();
         promise25Measure();
         promise25Topology();
+        promise25HolesAtTheEdges();
         promise26IsMirrored();
         promise27Difference();
         promise28Alone();
@@ -937,6 +938,23 @@ public final class PromiseTest {
         due(y.measure(0, 0, 3), 1);
     }
 
+    /** A pixel without ink that one edge alone keeps from being a hole, at each of the four edges. */
+    private static void promise25HolesAtTheEdges() {
+        promise = 25;
+        IconSetBuilder x = of("size 6; part d bar 0 0 1 1;"
+                + " icon top d at 8 0, d at 24 0, d at 16 8; icon bottom d at 8 40, d at 24 40, d at 16 32;"
+                + " icon left d at 0 8, d at 0 24, d at 8 16; icon right d at 40 8, d at 40 24, d at 32 16;"
+                + " icon inside d at 8 8, d at 24 8, d at 16 0, d at 16 16; icon column d at 8 0, d at 8 24;");
+        same(written(x, 0, 0), ".#.#..\n..#...\n......\n......\n......\n......\n");
+        same(written(x, 3, 0), "......\n.....#\n....#.\n.....#\n......\n......\n");
+        int[] pieces = {1, 1, 1, 1, 1, 2};
+        int[] holes = {0, 0, 0, 0, 1, 0};
+        for (int icon = 0; icon < 6; icon++) {
+            due(x.measure(icon, 0, 2), pieces[icon]);
+            due(x.measure(icon, 0, 3), holes[icon]);
+        }
+    }
+
     private static void promise26IsMirrored() {
         promise = 26;
         IconSetBuilder x = of("size 4; size 5; part p bar 12 0 24 12; part q bar 0 12 12 24; part r bar 0 0 1 1;"
@@ -1031,6 +1049,9 @@ public final class PromiseTest {
         // 31 and 32 units are both snapped to 21 with 32 pixels, but to 20 and 21 with 31 pixels
         IconSetBuilder y = of("part p bar 0 0 31 48, bar 32 0 16 48; icon i p;");
         due(y.smallest(0), 32);
+        // 32 and 33 units are both snapped to 21 with 31 pixels, but to 21 and 22 with 32 and 30 pixels
+        IconSetBuilder z = of("part p bar 0 0 32 48, bar 33 0 15 48; icon i p;");
+        due(z.smallest(0), 32);
         // 30 units are snapped to 20 with 32 pixels; both are snapped to 13 with 20 pixels
         y.setShape(0, 0, 3, 30);
         due(y.smallest(0), 21);
