@@ -1,25 +1,9 @@
 /** At least one test for each promise of the document, with answers worked out by hand. */
-public final class PromiseTest {
-    private static final String NOTHING = "nothing";
-    private static final String INDEX = "java.lang.IndexOutOfBoundsException";
-    private static final String ARGUMENT = "java.lang.IllegalArgumentException";
-    private static final String STATE = "java.lang.IllegalStateException";
-    private static final String NO_ELEMENT = "java.util.NoSuchElementException";
-    private static final int LOW = Integer.MIN_VALUE;
-    private static final int HIGH = Integer.MAX_VALUE;
-
+public final class PromiseTest extends Checks {
     /** Sizes 8 and 16 (extra 1); a frame all around and a dot in its middle. */
     private static final String SET = "size 8; size 16 extra 1;"
             + " part frame box 0 0 48 48 6; part dot bar 18 18 12 12, line 0 0 48 0 3;"
             + " icon a frame; icon b frame, dot; icon c; icon d dot at 6 -6;";
-
-    private static int passed = 0;
-    private static int failed = 0;
-    private static int promise = 0;
-
-    private interface Call {
-        long answer();
-    }
 
     public static void main(String[] args) {
         setupPromises();
@@ -29,10 +13,7 @@ public final class PromiseTest {
         drawingPromises();
         comparingPromises();
         textPromises();
-        System.out.println("PromiseTest: " + passed + " checks right, " + failed + " wrong");
-        if (failed != 0) {
-            System.exit(1);
-        }
+        finish("PromiseTest", 1, 0);
     }
 
     private static void setupPromises() {
@@ -100,112 +81,6 @@ public final class PromiseTest {
         promise35WrittenByte();
         promise36Undo();
         promise36UndoOfEachChange();
-    }
-
-    // ---- help
-
-    private static void due(long got, long want) {
-        same(Long.toString(got), Long.toString(want));
-    }
-
-    private static void same(String got, String want) {
-        if (got.equals(want)) {
-            passed++;
-            return;
-        }
-        failed++;
-        StackTraceElement[] places = new Throwable().getStackTrace();
-        StackTraceElement place = places[0];
-        for (StackTraceElement candidate : places) {
-            if (candidate.getMethodName().startsWith("promise")) {
-                place = candidate;
-                break;
-            }
-        }
-        System.out.println("promise " + promise + ", line " + place.getLineNumber() + ": got " + got + ", due is " + want);
-    }
-
-    private static void yes(boolean got) {
-        same(Boolean.toString(got), "true");
-    }
-
-    private static void no(boolean got) {
-        same(Boolean.toString(got), "false");
-    }
-
-    /** The class must be the named one itself: what the machine throws is of a class below it. */
-    private static void thrown(String want, Call call) {
-        String got = NOTHING;
-        try {
-            call.answer();
-        } catch (RuntimeException e) {
-            got = e.getClass().getName();
-        }
-        same(got, want);
-    }
-
-    private static long bit(boolean value) {
-        return value ? 1 : 0;
-    }
-
-    private static int put(IconSetBuilder x, String text) {
-        int length = 0;
-        for (int from = 0; from < text.length(); from += 20) {
-            int[] words = new int[5];
-            for (int i = 0; i < 20; i++) {
-                int sign = from + i < text.length() ? text.charAt(from + i) : ' ';
-                words[i / 4] = words[i / 4] << 8 | sign;
-            }
-            length = x.append(words[0], words[1], words[2], words[3], words[4]);
-        }
-        return length;
-    }
-
-    private static int load(IconSetBuilder x, String text) {
-        put(x, text);
-        return x.load(text.length());
-    }
-
-    private static IconSetBuilder of(String text) {
-        IconSetBuilder x = new IconSetBuilder();
-        int icons = load(x, text);
-        if (icons < 0) {
-            same("the set of a test has the error " + icons + " at " + x.errorPosition(), NOTHING);
-        }
-        return x;
-    }
-
-    /** Loads a text and checks its error, and that the set stays as it was. */
-    private static void error(String text, int code, int position) {
-        IconSetBuilder x = of("size 5; icon kept;");
-        due(load(x, text), code);
-        due(x.errorPosition(), position);
-        due(x.count(0), 1);
-        due(x.count(2), 1);
-        due(x.undo(), 0);
-    }
-
-    private static long name(String letters) {
-        long value = 0;
-        for (char letter : letters.toCharArray()) {
-            value = value << 5 | letter - 'a' + 1;
-        }
-        return value;
-    }
-
-    private static String written(IconSetBuilder x, int icon, int size) {
-        int length = x.writeIcon(icon, size);
-        StringBuilder text = new StringBuilder();
-        for (int i = 0; i < length; i++) {
-            text.append((char) x.writtenByte(i));
-        }
-        return text.toString();
-    }
-
-    /** Draws shapes moved by a shift at a size, the rows written one behind the other. */
-    private static String drawn(String size, String shapes, String shift) {
-        IconSetBuilder x = of("size " + size + "; part p " + shapes + "; icon i p at " + shift + ";");
-        return written(x, 0, 0).replace("\n", " ").trim();
     }
 
     // ---- setup
