@@ -18,6 +18,7 @@ abstract class Checks {
     static int passed = 0;
     static int failed = 0;
     static int promise = 0;
+    private static final boolean TELLS_NAMES = Boolean.getBoolean("names");
     private static String caseName = "";
     private static final Set<String> CASES = new HashSet<>();
     private static final Set<Integer> PROMISES = new TreeSet<>();
@@ -51,6 +52,9 @@ abstract class Checks {
             same("a second case of this name", NOTHING);
         }
         PROMISES.add(ofPromise);
+        if (TELLS_NAMES) {
+            System.out.println("promise " + ofPromise + ", " + ofCase);
+        }
         try {
             body.run();
         } catch (RuntimeException e) {

@@ -84,6 +84,10 @@ public final class EdgeComparingTest extends Checks {
         found("all ink: 4 pixels", "part p bar 0 0 48 48; icon i p;", 4);
         found("a hole that is closed with 4 pixels: 5 pixels", "part p box 0 0 29 29 1; icon i p;", 5);
         found("a hole that is there with 4 pixels", "part p box 0 0 30 30 1; icon i p;", 4);
+        // a hole of 2 by 2 pixels with 32 pixels, that the extra 1 would close; 3 by 3 pixels in all with 10
+        found("a stroke that would close the hole if it were one pixel more", "part p box 0 0 12 12 4; icon i p;", 10);
+        // no hole with 32 pixels, but with the extra -1 there would be one; 7 by 7 pixels with the stroke 3 with 27
+        found("a stroke that would open a hole if it were one pixel less", "part p box 0 0 12 12 6; icon i p;", 28);
         // a gap of one unit that is drawn with 32, and with 31 and again with 8 pixels, but not with 30
         found("two pieces that touch with 30 pixels: 31 pixels", "part p bar 0 0 20 48, bar 21 0 27 48; icon i p;", 31);
         found("two pieces that touch with 31 pixels: 32 pixels", "part p bar 0 0 31 48, bar 32 0 16 48; icon i p;", 32);
@@ -135,6 +139,9 @@ public final class EdgeComparingTest extends Checks {
         extremes("one icon with all ink", "size 4; part p bar 0 0 48 48; icon a p;", 0, 0);
         extremes("all icons without ink: the lowest one", "size 4; icon a; icon b; icon c;", 0, 0);
         extremes("all icons with all ink: the lowest one", "size 4; part p bar 0 0 48 48; icon a p; icon b p;", 0, 0);
+        extremes("the weights 1000 and 999",
+                "size 32; part p bar 0 0 48 48; part q bar 0 0 48 47, bar 0 47 47 1; icon a p; icon b q;", 0, 1);
+        extremes("the weights 0 and 1", "size 32; part q bar 0 0 3 1; icon a; icon b q;", 1, 0);
         String p = "size 4; part p bar 0 0 12 12; part q bar 0 0 24 12; ";
         extremes("the greatest is the first one", p + "icon a q; icon b p; icon c p;", 0, 1);
         extremes("the greatest is the last one", p + "icon a p; icon b p; icon c q;", 2, 0);
@@ -248,6 +255,10 @@ public final class EdgeComparingTest extends Checks {
         answer(33, "an icon in which one of two uses is covered", start("size 4; part p bar 0 0 12 12; part q bar 0 0 24 48; icon a q, p, p at 24 0;"),
                 0, x -> x.indifferent(0, 0));
         answer(33, "an icon in which the part lies outside", start(p + "icon a p at 0 48;"), 1, x -> x.indifferent(0, 0));
+        // with the extra 1 the line of p has 4 pixels, one of them that of q
+        Start extra = start("size 6 extra 1; part p line 0 0 0 0 8; part q bar 0 0 8 8; icon a p, q;");
+        answer(33, "the extra of the size counts for the part", extra, 0, x -> x.indifferent(0, 0));
+        answer(33, "the extra of the size counts for the other parts", extra, 1, x -> x.indifferent(1, 0));
         answer(33, "all of 8 icons", start(p + "icon a; icon b; icon c; icon d q; icon e q, p; icon f; icon g; icon h;"), 8,
                 x -> x.indifferent(0, 0));
     }

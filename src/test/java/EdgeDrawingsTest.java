@@ -138,6 +138,14 @@ public final class EdgeDrawingsTest extends Checks {
                 "#####. #####. #####. #####. #####. ......");
         draws("the stroke is more than width and height", "6 extra 2", "box 16 16 8 8 12",
                 "...... ...... ..#... ...... ...... ......");
+        draws("the stroke is more than the width alone", "6 extra 2", "box 16 16 8 24 12",
+                "...... ...... ..#... ..#... ..#... ......");
+        draws("the stroke is more than the height alone", "6 extra 2", "box 16 16 24 8 12",
+                "...... ...... ..###. ...... ...... ......");
+        draws("the stroke is more than the width of a box at the right", "6 extra 2", "box 32 0 8 24 12",
+                "....#. ....#. ....#. ...... ...... ......");
+        draws("the stroke is more than the height of a box below", "6 extra 2", "box 0 32 24 8 12",
+                "...... ...... ...... ...... ###... ......");
         draws("a box of two rows has ink all over", "6", "box 0 0 48 16 8", "###### ###### ...... ...... ...... ......");
         draws("a box of three rows", "6", "box 0 0 48 24 8", "###### #....# ###### ...... ...... ......");
         draws("a box of two columns has ink all over", "6", "box 0 0 16 24 8", "##.... ##.... ##.... ...... ...... ......");
@@ -191,6 +199,11 @@ public final class EdgeDrawingsTest extends Checks {
         draws("half a row down is a whole one, to the left", "4", "line 24 0 0 12 12", "..#. ##.. .... ....");
         draws("half a column to the right is a whole one", "4", "line 0 0 12 24 12", "#... .#.. .#.. ....");
         draws("half a column to the left is none", "4", "line 12 0 0 24 12", ".#.. .#.. #... ....");
+        draws("two thirds of a row down, away from the corner", "6", "line 8 8 32 24 8", "...... .#.... ..##.. ....#. ...... ......");
+        draws("two thirds of a row up, away from the corner", "6", "line 32 24 8 8 8", "...... .#.... ..##.. ....#. ...... ......");
+        draws("two thirds of a column on, away from the corner", "6", "line 8 8 24 32 8", "...... .#.... ..#... ..#... ...#.. ......");
+        draws("two thirds of a column back, away from the corner", "6", "line 24 32 8 8 8",
+                "...... .#.... ..#... ..#... ...#.. ......");
         draws("a line's points are snapped: just less than half a pixel", "4", "line 5 5 41 5 1", "#### .... .... ....");
         draws("a line's points are snapped: half a pixel", "4", "line 6 6 42 6 1", ".... .### .... ....");
     }
@@ -351,6 +364,16 @@ public final class EdgeDrawingsTest extends Checks {
         measures("a piece that is connected by its last pixel alone", dots("0 0", "0 16", "8 8"), 0, 2, 1);
         measures("a piece in the form of a U", dots("0 0", "0 8", "8 16", "16 8", "16 0"), 0, 2, 1);
         measures("a piece in the form of an arch", dots("0 16", "0 8", "8 0", "16 8", "16 16"), 0, 2, 1);
+        measures("a piece that goes on to the left of where it begins", "size 6; part p bar 40 0 8 8, bar 0 8 48 8; icon i p;", 0, 2, 1);
+        measures("a piece in the form of a U through the last of 32 rows",
+                "size 32; part p bar 0 0 1 48, bar 0 47 48 1, bar 47 0 1 48; icon i p;", 0, 2, 1);
+        measures("a piece in the form of an arch through the first of 32 rows",
+                "size 32; part p bar 0 0 1 48, bar 0 0 48 1, bar 47 0 1 48; icon i p;", 0, 2, 1);
+        measures("pieces in all four corners of 32 rows",
+                "size 32; part p bar 0 0 1 1; icon i p, p at 47 0, p at 0 47, p at 47 47;", 0, 2, 4);
+        // upright bars two pixels apart, connected below and above by turns
+        measures("a piece with many turns up and down", "size 16; part p bar 0 0 3 48, bar 6 0 3 48, bar 0 45 9 3, bar 6 0 9 3;"
+                + " icon i p, p at 12 0, p at 24 0, p at 36 0;", 0, 2, 1);
         measures("a piece around another one",
                 "size 12; part p box 0 0 48 48 1, box 16 16 16 16 1; icon i p;", 0, 2, 2);
         measures("as many pieces as can be drawn", "size 32; part p " + repeated("bar 0 0 1 1", ",", 5)
@@ -382,6 +405,13 @@ public final class EdgeDrawingsTest extends Checks {
         measures("a hole around a piece, and one in it",
                 "size 12; part p box 0 0 48 48 1, box 16 16 16 16 1; icon i p;", 0, 3, 2);
         measures("a hole from the second to the last column but one", "size 32; part p box 0 0 48 48 1; icon i p;", 0, 3, 1);
+        measures("a hole that goes on to the left of where it begins",
+                "size 6; part p box 0 0 48 48 8, bar 8 8 24 8, bar 8 24 32 16; icon i p;", 0, 3, 1);
+        measures("a hole in the form of a U", "size 32; part p box 0 0 48 48 1, bar 21 0 6 40; icon i p;", 0, 3, 1);
+        measures("a hole in the form of an arch", "size 32; part p box 0 0 48 48 1, bar 21 8 6 40; icon i p;", 0, 3, 1);
+        // a frame with bars from above and from below by turns: one way through between them
+        measures("a hole with many turns up and down", "size 16; part f box 0 0 48 48 3; part p bar 6 3 3 39, bar 12 6 3 39;"
+                + " icon i f, p, p at 12 0, p at 24 0;", 0, 3, 1);
         measures("two holes beside each other", "size 6; part p box 0 0 24 48 8, box 16 0 32 48 8; icon i p;", 0, 3, 2);
         measures("the group outside of a ring is no hole", "size 6; part p box 8 8 32 32 8; icon i p;", 0, 3, 1);
     }
@@ -419,6 +449,9 @@ public final class EdgeDrawingsTest extends Checks {
         range(26, "size", ALL_AND_NONE, (x, v) -> bit(x.isMirrored(0, v, true))).fits(0, 1).fits(2, 1).refuses(INDEX, -1, 3);
         range(26, "icon of a lively set", LIVELY, (x, v) -> bit(x.isMirrored(v, 0, true))).refuses(INDEX, -1, 3);
         range(26, "size of a lively set", LIVELY, (x, v) -> bit(x.isMirrored(0, v, false))).refuses(INDEX, -1, 3);
+        Start unlike = start("size 4; size 5; part p bar 20 0 8 48; part q bar 0 0 1 1; icon a p; icon b q; icon c;");
+        range(26, "icon among unlike ones", unlike, (x, v) -> bit(x.isMirrored(v, 1, false))).fits(0, 1).fits(1, 0).fits(2, 1);
+        range(26, "size at which the icon is unlike", unlike, (x, v) -> bit(x.isMirrored(0, v, false))).fits(0, 0).fits(1, 1);
         mirrored("no ink is the same either way", dots(), true, true);
         mirrored("the first column alone", "size 6; part p bar 0 0 8 48; icon i p;", false, true);
         mirrored("the first row alone", "size 6; part p bar 0 0 48 8; icon i p;", true, false);
@@ -487,6 +520,10 @@ public final class EdgeDrawingsTest extends Checks {
         answer(28, "the first of three uses in a row", uses, 1, x -> x.alone(5, 0, 0));
         answer(28, "the one between two uses", uses, 0, x -> x.alone(5, 1, 0));
         answer(28, "the last of three uses in a row", uses, 1, x -> x.alone(5, 2, 0));
+        // with the extra 1 the line of p has 4 pixels, one of them that of q
+        Start extra = start("size 6 extra 1; part p line 0 0 0 0 8; part q bar 0 0 8 8; icon a p, q;");
+        answer(28, "the extra of the size counts for the use", extra, 3, x -> x.alone(0, 0, 0));
+        answer(28, "the extra of the size counts for the other uses", extra, 0, x -> x.alone(0, 1, 0));
         answer(28, "a use that lies outside", uses, 0, x -> x.alone(6, 1, 0));
     }
 }

@@ -174,6 +174,10 @@ public final class EdgePartsTest extends Checks {
             x.setShape(0, 0, 5, 0);
             return x.undo();
         });
+        Start lineFirst = start("part p line 5 6 7 8 9, bar 30 31 32 33, box 40 41 42 43 10;");
+        range(14, "e of a bar behind a line", lineFirst, (x, v) -> x.setShape(0, 1, 5, v)).fits(0, 0).refuses(ARGUMENT, -1, 1, 9);
+        range(14, "a of a line ahead of a bar", lineFirst, (x, v) -> x.setShape(0, 0, 1, v)).fits(48, 5).refuses(ARGUMENT, -1, 49);
+        range(14, "a of a box behind a line", lineFirst, (x, v) -> x.setShape(0, 2, 1, v)).fits(47, 40).refuses(ARGUMENT, -1, 48);
         edge(14, "the other shapes and parts stay as they are", () -> {
             IconSetBuilder x = KINDS.make();
             x.setShape(0, 1, 3, 48);

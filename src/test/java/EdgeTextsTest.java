@@ -195,6 +195,14 @@ public final class EdgeTextsTest extends Checks {
                 thrown(STATE, () -> x.undo());
             });
         }
+        edge(36, "the 512th call is answered like others", () -> {
+            IconSetBuilder x = new IconSetBuilder();
+            x.addSize(8);
+            for (int call = 2; call < 512; call++) {
+                x.setExtra(0, call % 5 - 2);
+            }
+            due(x.undo(), 7);
+        });
         edge(36, "a full set comes back 8 times", () -> {
             IconSetBuilder x = FULL.make();
             for (int left = 7; left >= 0; left--) {
