@@ -47,9 +47,7 @@ public final class IconSetBuilder {
     private static final int[] EXTRAS_BY_PREFERENCE = {0, -1, 1, -2, 2};
 
     private final IconSet set;
-    private final IconSet draft;
     private final History history;
-    private final TextBuffer text;
     private final SetReader reader;
     private final Drawing drawing;
     private final Drawing otherDrawing;
@@ -60,10 +58,8 @@ public final class IconSetBuilder {
     /** Creates a set without sizes, parts and icons, and an empty text buffer. */
     public IconSetBuilder() {
         set = new IconSet();
-        draft = new IconSet();
         history = new History();
-        text = new TextBuffer();
-        reader = new SetReader(text, draft);
+        reader = new SetReader();
         drawing = new Drawing();
         otherDrawing = new Drawing();
         written = new Drawing();
@@ -73,26 +69,26 @@ public final class IconSetBuilder {
 
     /** Appends 20 bytes to the text buffer and returns its new length. */
     public int append(int a, int b, int c, int d, int e) throws IllegalStateException {
-        requireState(text.length() + APPENDED_BYTES <= MAX_TEXT);
-        text.put(a);
-        text.put(b);
-        text.put(c);
-        text.put(d);
-        text.put(e);
-        return text.length();
+        requireState(reader.text.length() + APPENDED_BYTES <= MAX_TEXT);
+        reader.text.put(a);
+        reader.text.put(b);
+        reader.text.put(c);
+        reader.text.put(d);
+        reader.text.put(e);
+        return reader.text.length();
     }
 
     /** Reads a set from the text buffer; returns the number of icons, or the error code. */
     public int load(int length) throws IllegalArgumentException {
-        requireArgument(within(length, 0, text.length()));
+        requireArgument(within(length, 0, reader.text.length()));
         boolean valid = reader.readSet(length);
-        text.clear();
+        reader.text.clear();
         foundError = reader.errorPlace();
         if (!valid) {
             return reader.errorCode();
         }
         history.remember(set);
-        set.copyFrom(draft);
+        set.copyFrom(reader.draft);
         return set.icons.rowCount();
     }
 
@@ -928,7 +924,7 @@ public final class IconSetBuilder {
         }
     }
 
-    /** Reads the draft of a set from the text buffer, up to the first error. */
+    /** The text buffer, and the draft of a set that is read from it up to the first error. */
     private static final class SetReader {
         // The words of the grammar, packed like the names that findPart takes.
         private static final long WORD_SIZE = 19L << 15 | 9L << 10 | 26L << 5 | 5L;
@@ -943,8 +939,8 @@ public final class IconSetBuilder {
         /** No number of the grammar is as great; a longer sequence of digits stays at it. */
         private static final int GREAT_NUMBER = 1000;
 
-        private final TextBuffer text;
-        private final IconSet draft;
+        final TextBuffer text;
+        final IconSet draft;
         private int length;
         private int position;
         private int tokenStart;
@@ -952,9 +948,9 @@ public final class IconSetBuilder {
         private int code;
         private int errorAt;
 
-        SetReader(TextBuffer text, IconSet draft) {
-            this.text = text;
-            this.draft = draft;
+        SetReader() {
+            text = new TextBuffer();
+            draft = new IconSet();
             errorAt = NONE;
         }
 
@@ -976,8 +972,8 @@ public final class IconSetBuilder {
             for (int statement = 0; statement < MAX_TEXT && peek() != NONE; statement++) {
                 long word = readWord();
                 boolean read = word == WORD_SIZE ? readSize()
-                        : word == WORD_PART ? readRow(draft.parts)
-                        : word == WORD_ICON ? readRow(draft.icons)
+                        : word == WORD_PART ? readRow(draft.parts, true)
+                        : word == WORD_ICON ? readRow(draft.icons, false)
                         : fail(SYNTAX_ERROR, tokenStart);
                 if (!read) {
                     return false;
@@ -1021,7 +1017,7 @@ public final class IconSetBuilder {
         }
 
         /** Reads a part or an icon behind its first word: the name, and the shapes or uses. */
-        private boolean readRow(Rows rows) {
+        private boolean readRow(Rows rows, boolean ofShapes) {
             if (rows.isFull()) {
                 return fail(TOO_MANY, tokenStart);
             }
@@ -1033,7 +1029,6 @@ public final class IconSetBuilder {
                 return fail(VALUE_ERROR, tokenStart);
             }
             int row = rows.addRow(name);
-            boolean ofShapes = rows == draft.parts;
             if (!ofShapes && !isLetter(peek())) {
                 return true;
             }
@@ -1409,10 +1404,10 @@ public final class IconSetBuilder {
             for (int sweep = 0; sweep < MAX_PIXELS * MAX_PIXELS && grown; sweep++) {
                 grown = false;
                 for (int row = 0; row < side; row++) {
-                    grown |= growRow(row, diagonal);
+                    grown = growRow(row, diagonal) || grown;
                 }
                 for (int row = side - 1; row >= 0; row--) {
-                    grown |= growRow(row, diagonal);
+                    grown = growRow(row, diagonal) || grown;
                 }
             }
             for (int row = 0; row < side; row++) {

@@ -32,6 +32,7 @@ public final class FaceTest {
     public static void main(String[] args) throws IOException {
         membersAreThoseOfTheDocument();
         signaturesAreThoseOfTheDocument();
+        sourceTellsTheFaceInOrder();
         constantsHaveTheirValues();
         insideClassesAreHidden();
         sourceKeepsToTheRules();
@@ -49,8 +50,12 @@ public final class FaceTest {
         }
     }
 
+    private static String document() throws IOException {
+        return Files.readString(DOCUMENT, StandardCharsets.UTF_8);
+    }
+
     private static String face() throws IOException {
-        String document = Files.readString(DOCUMENT, StandardCharsets.UTF_8);
+        String document = document();
         int from = document.indexOf("public final class IconSetBuilder {");
         return document.substring(from, document.indexOf("```", from));
     }
@@ -105,6 +110,29 @@ public final class FaceTest {
         check(due.equals(got), "the face is\n" + got + "\nbut due is\n" + due);
     }
 
+    /** The class line, constants, constructor and methods, each with its names and exceptions, as in the document. */
+    private static void sourceTellsTheFaceInOrder() throws IOException {
+        List<String> due = publicLines(face());
+        List<String> got = publicLines(code());
+        check(due.size() == 41, "the document's face was not read: " + due.size() + " lines");
+        for (int line = 0; line < Math.max(due.size(), got.size()); line++) {
+            String dueLine = line < due.size() ? due.get(line) : "nothing";
+            String gotLine = line < got.size() ? got.get(line) : "nothing";
+            check(dueLine.equals(gotLine), "the source tells " + gotLine + "\nbut due is " + dueLine);
+        }
+        check(document().contains("import java.util.NoSuchElementException;\n\npublic final class IconSetBuilder {")
+                && code().contains("import java.util.NoSuchElementException;"), "the import of the face is missing");
+    }
+
+    private static List<String> publicLines(String text) {
+        List<String> lines = new ArrayList<>();
+        Matcher matcher = Pattern.compile("\\bpublic [^;{]*").matcher(text);
+        while (matcher.find()) {
+            lines.add(matcher.group().replaceAll("\\s+", " ").trim());
+        }
+        return lines;
+    }
+
     private static void constantsHaveTheirValues() throws IOException {
         Matcher matcher = Pattern.compile("public static final int (\\w+) = (-?\\d+);").matcher(face());
         int found = 0;
@@ -132,7 +160,16 @@ public final class FaceTest {
                 check(!constant || Modifier.isFinal(field.getModifiers()), field + " is not final");
             }
             check(fields <= 20, one + " has " + fields + " fields");
+            for (Method method : one.getDeclaredMethods()) {
+                check(!isFaceName(method.getName()), method + " bears a public name");
+                check(!Modifier.isPublic(method.getModifiers()), method + " is public");
+            }
         }
+    }
+
+    private static boolean isFaceName(String name) {
+        return Arrays.stream(IconSetBuilder.class.getDeclaredMethods())
+                .anyMatch(method -> Modifier.isPublic(method.getModifiers()) && method.getName().equals(name));
     }
 
     /** The source without comments and without the contents of texts. */
